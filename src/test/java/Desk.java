@@ -102,7 +102,7 @@ final class Desk {
         }
     }
 
-    /** Questions "q0", "q1".. can't be: words have no digits. So question k takes the word of k letters 'a' behind 'q'. */
+    /** The first n questions, of themes 0, 1 .. in turn; question k takes wordOf(k). */
     Desk withQuestions(int n, int themes) {
         for (int k = 0; k < n; k++) {
             due("question " + k, question(k % themes, wordOf(k)), k);

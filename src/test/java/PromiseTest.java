@@ -125,6 +125,9 @@ public final class PromiseTest {
         due("end(7)", d.x.end(7), true);
         due("a form", d.x.question(0), 0);
         due("the first bytes stayed", d.takes(0, "aaabbbb"), 1);
+        d.text("1..9");
+        due("end(2)", d.x.end(2), true);
+        due("what was cut is not read", d.x.question(0), -2);
     }
 
     private static void promise4Question() {
@@ -244,6 +247,8 @@ public final class PromiseTest {
         fault("a]" + times(" ", 250), 1, 1);
         fault("(((((((" + times(" ", 250), 6, 3);
         fault("a" + times(" ", 199) + "]", 200, 1);
+        good(times("[a]", 66) + "|b");
+        fault(times("[a]", 66) + "|(", 200, 1);
     }
 
     private static void taken(String form, String answer, int want) {
@@ -307,6 +312,13 @@ public final class PromiseTest {
         taken(times("[a]", 19), times("a ", 20), 0);
         taken("a|a|b a|b", "b a", 1);
         taken("[[a]b]c", "a c", 0);
+        taken("[a](a|b)c", "a c", 1);
+        taken("(((((x[a]|y)))))", "x", 1);
+        taken("(((((x[a]|y)))))", "x a", 1);
+        taken("(((((x[a]|y)))))", "y a", 0);
+        taken(times("[a]", 66) + "|b", "b", 1);
+        taken(times("[a]", 66) + "|b", times("a ", 20), 1);
+        taken(times("[a]", 66) + "|b", "a b", 0);
         taken("{[a],[b],[c],[d],[e]}{[a],[b],[c],[d],[e]}f", "e d c b a a b c d e f", 1);
         taken("{[a],[b],[c],[d],[e]}{[a],[b],[c],[d],[e]}f", "e d c b a a b c d d f", 0);
     }
@@ -440,6 +452,8 @@ public final class PromiseTest {
         lawFault("round", 5, 1);
         lawFault(";", 0, 1);
         lawFault("rounds 1", 0, 1);
+        lawFault("sound 1", 0, 1);
+        lawFault("rounc 1", 0, 1);
         lawFault("1 round", 0, 1);
         lawFault("round turns", 6, 1);
         lawFault("round 0 turns", 6, 2);
@@ -581,6 +595,8 @@ public final class PromiseTest {
         most.law(times("round 8 buzz right 0;", 6));
         due("48 of 60", most.pack(0, 1, 48, 0, 4800, 48), 0);
         due("the last", most.x.packed(47), 47);
+        due("48 of 60 that are too easy", most.pack(0, 1, 48, 0, 2399, 100), 2);
+        due("looks behind the first 48", most.x.count(4), 100);
         due("at most 5 of a theme: 40 in all", most.pack(0, 1, 5, 0, 4800, 100000), 2);
         due("all looks", most.x.count(4), 100000);
     }
@@ -616,6 +632,9 @@ public final class PromiseTest {
         d.x.strike(1, true);
         due("struck since", d.x.begin(), false);
         d.x.strike(1, false);
+        d.x.strike(0, true);
+        due("the first struck since", d.x.begin(), false);
+        d.x.strike(0, false);
         d.x.strike(3, true);
         due("one that is not of the pack", d.x.begin(), true);
         due("one is on", d.x.begin(), false);
