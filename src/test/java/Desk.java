@@ -1,31 +1,24 @@
-/** A league with texts in the place of fed numbers, and a count of the answers that are not as due. */
+/** A league with texts in the place of fed numbers, and numbers in the place of exceptions. */
 final class Desk {
     static final int THROWS_STATE = Integer.MIN_VALUE;
     static final int THROWS_ARGUMENT = Integer.MIN_VALUE + 1;
     static final int THROWS_NO_ELEMENT = Integer.MIN_VALUE + 2;
 
-    static int checks = 0;
-    static int wrong = 0;
-
     final QuizLeague x = new QuizLeague();
 
-    static void due(String what, long got, long want) {
-        checks++;
-        if (got != want) {
-            wrong++;
-            System.out.println(what + " answered " + got + ", due is " + want);
-        }
+    /** 12 QUESTIONS, a PACK of what the LAW wants, and the MATCH of TEAMS 0 and 1 begun. */
+    static Desk playing(String law) {
+        Desk d = new Desk().withQuestions(12, 8);
+        int wanted = d.law(law);
+        Checks.due("pack for " + law, d.pack(0, 1, 48, 0, 5000, 1000), 0);
+        Checks.due("begin for " + law, d.x.begin(), true);
+        Checks.due("pack's size for " + law, d.x.count(3), wanted);
+        return d;
     }
 
-    static void due(String what, boolean got, boolean want) {
-        due(what, got ? 1 : 0, want ? 1 : 0);
-    }
-
-    static void close(String name) {
-        System.out.println(name + ": " + checks + " checks, " + wrong + " wrong");
-        if (wrong != 0 || checks == 0) {
-            System.exit(1);
-        }
+    /** The right answer to QUESTION k of the MATCH. */
+    String right(int k) {
+        return wordOf(x.packed(k));
     }
 
     /** Leaves the tape with this text alone; its characters are bytes. */
@@ -34,7 +27,7 @@ final class Desk {
         for (int at = 0; at < text.length(); at += 20) {
             x.feed(number(text, at), number(text, at + 4), number(text, at + 8), number(text, at + 12), number(text, at + 16));
         }
-        due("end behind a text", x.end(text.length()), true);
+        Checks.due("end behind a text", x.end(text.length()), true);
         return this;
     }
 
@@ -91,21 +84,21 @@ final class Desk {
     /** Checks now(0) to now(5). */
     void dueNow(String what, int... wants) {
         for (int i = 0; i < wants.length; i++) {
-            due(what + ": now(" + i + ")", x.now(i), wants[i]);
+            Checks.due(what + ": now(" + i + ")", x.now(i), wants[i]);
         }
     }
 
     /** Checks event(k, 0) to event(k, 5). */
     void dueEvent(String what, int k, int... wants) {
         for (int i = 0; i < wants.length; i++) {
-            due(what + ": event(" + k + ", " + i + ")", event(k, i), wants[i]);
+            Checks.due(what + ": event(" + k + ", " + i + ")", event(k, i), wants[i]);
         }
     }
 
     /** The first n questions, of themes 0, 1 .. in turn; question k takes wordOf(k). */
     Desk withQuestions(int n, int themes) {
         for (int k = 0; k < n; k++) {
-            due("question " + k, question(k % themes, wordOf(k)), k);
+            Checks.due("question " + k, question(k % themes, wordOf(k)), k);
         }
         return this;
     }

@@ -27,11 +27,11 @@ public final class FaceTest {
         face();
         rules();
         room();
-        Desk.close("FaceTest");
+        Checks.close("FaceTest");
     }
 
     private static void same(String what, Object got, Object want) {
-        Desk.due(what + ": " + got + ", due is " + want, got.equals(want), true);
+        Checks.due(what + ": " + got + ", due is " + want, got.equals(want), true);
     }
 
     private static String typesOf(Class<?>[] types) {
@@ -41,7 +41,7 @@ public final class FaceTest {
     private static void addIfSeen(Set<String> seen, Member member, String text) {
         if (!Modifier.isPrivate(member.getModifiers()) && !member.isSynthetic()) {
             seen.add(text);
-            Desk.due(text + " is public", Modifier.isPublic(member.getModifiers()), true);
+            Checks.due(text + " is public", Modifier.isPublic(member.getModifiers()), true);
         }
     }
 
@@ -58,34 +58,34 @@ public final class FaceTest {
         }
         same("the face", seen, new TreeSet<>(Arrays.asList(FACE)));
         same("the class", Modifier.toString(QuizLeague.class.getModifiers()), "public final");
-        Desk.due("NONE", QuizLeague.NONE, -1);
+        Checks.due("NONE", QuizLeague.NONE, -1);
     }
 
     private static void rules() throws Exception {
         Set<String> names = Arrays.stream(QuizLeague.class.getDeclaredMethods())
             .filter(m -> Modifier.isPublic(m.getModifiers())).map(Method::getName).collect(Collectors.toSet());
         Class<?>[] inside = QuizLeague.class.getDeclaredClasses();
-        Desk.due("rule 11: classes", inside.length <= 12, true);
+        Checks.due("rule 11: classes", inside.length <= 12, true);
         for (Class<?> c : inside) {
-            Desk.due("rule 1: " + c + " is static", Modifier.isStatic(c.getModifiers()), true);
+            Checks.due("rule 1: " + c + " is static", Modifier.isStatic(c.getModifiers()), true);
             for (Method m : c.getDeclaredMethods()) {
-                Desk.due("rule 1: the name of " + m, names.contains(m.getName()), false);
-                Desk.due("rule 11: parameters of " + m, m.getParameterCount() <= 7, true);
+                Checks.due("rule 1: the name of " + m, names.contains(m.getName()), false);
+                Checks.due("rule 11: parameters of " + m, m.getParameterCount() <= 7, true);
             }
             for (Field f : c.getDeclaredFields()) {
                 boolean isChanging = Modifier.isStatic(f.getModifiers()) && !Modifier.isFinal(f.getModifiers());
-                Desk.due("rule 5: " + f, isChanging, false);
+                Checks.due("rule 5: " + f, isChanging, false);
             }
         }
         String source = Files.readString(Path.of("src/main/java/QuizLeague.java"));
         Matcher imports = Pattern.compile("(?m)^import (.*);$").matcher(source);
         while (imports.find()) {
-            Desk.due("rule 4: " + imports.group(1), imports.group(1).matches("java\\.util\\.(Arrays|NoSuchElementException)"), true);
+            Checks.due("rule 4: " + imports.group(1), imports.group(1).matches("java\\.util\\.(Arrays|NoSuchElementException)"), true);
         }
         for (String ruledOut : new String[] {"->", "::", "catch", "finally", "synchronized", "assert ", "Exact(", "%=", "java.io"}) {
-            Desk.due("ruled out: " + ruledOut, source.contains(ruledOut), false);
+            Checks.due("ruled out: " + ruledOut, source.contains(ruledOut), false);
         }
-        Desk.due("rule 3: signs", source.chars().allMatch(c -> c < 128), true);
+        Checks.due("rule 3: signs", source.chars().allMatch(c -> c < 128), true);
     }
 
     /** A field or element takes four bytes or more, so few bytes are few of these. */
@@ -96,7 +96,7 @@ public final class FaceTest {
         long ahead = threads.getCurrentThreadAllocatedBytes();
         dearRun();
         long taken = threads.getCurrentThreadAllocatedBytes() - ahead;
-        Desk.due("bytes of a dear run: " + taken, taken < MOST_BYTES_OF_A_RUN, true);
+        Checks.due("bytes of a dear run: " + taken, taken < MOST_BYTES_OF_A_RUN, true);
     }
 
     private static void dearRun() {

@@ -19,15 +19,15 @@ public final class ModelTest {
     }
 
     public static void main(String[] args) {
-        for (int seed = 0; seed < RUNS && Desk.wrong < 20; seed++) {
+        for (int seed = 0; seed < RUNS && !Checks.hasManyWrong(); seed++) {
             new ModelTest(seed).run();
         }
-        Desk.close("ModelTest");
+        Checks.close("ModelTest");
     }
 
     private void same(String call, long got, long want) {
         calls++;
-        Desk.due("seed " + seed + ", call " + calls + ": " + call, got, want);
+        Checks.due("seed " + seed + ", call " + calls + ": " + call, got, want);
     }
 
     private void same(String call, boolean got, boolean want) {

@@ -1,8 +1,5 @@
 /** For each promise of the document: ordinary inputs, the edges that it names, and wrong inputs. */
-public final class PromiseTest {
-    private static final int NONE = QuizLeague.NONE;
-    private static final int NO_ELEMENT = Desk.THROWS_NO_ELEMENT;
-
+public final class PromiseTest extends Checks {
     public static void main(String[] args) {
         promise1NewObject();
         promise2Feed();
@@ -33,34 +30,7 @@ public final class PromiseTest {
         promise23Table();
         promise24Count();
         tapeIsEmptyThen();
-        Desk.close("PromiseTest");
-    }
-
-    private static void due(String what, long got, long want) {
-        Desk.due(what, got, want);
-    }
-
-    private static void due(String what, boolean got, boolean want) {
-        Desk.due(what, got, want);
-    }
-
-    private static String times(String text, int n) {
-        return text.repeat(n);
-    }
-
-    /** Questions for 2 teams, a pack of what the law wants, and the match begun; question k takes wordOf(k). */
-    private static Desk playing(String law) {
-        Desk d = new Desk().withQuestions(12, 8);
-        int wanted = d.law(law);
-        due("pack for " + law, d.pack(0, 1, 48, 0, 5000, 1000), 0);
-        due("begin for " + law, d.x.begin(), true);
-        due("pack's size for " + law, d.x.count(3), wanted);
-        return d;
-    }
-
-    /** The right answer to question k of the match. */
-    private static String right(Desk d, int k) {
-        return Desk.wordOf(d.x.packed(k));
+        close("PromiseTest");
     }
 
     private static void promise1NewObject() {
@@ -150,18 +120,6 @@ public final class PromiseTest {
         due("of its theme", faulty.asked(0, 0), 7);
     }
 
-    private static void fault(String form, int place, int kind) {
-        Desk d = new Desk();
-        due("place of the fault of <" + form + ">", d.question(0, form), -1 - place);
-        due("kind of the fault of <" + form + ">", d.x.fault(), kind);
-    }
-
-    private static void good(String form) {
-        Desk d = new Desk();
-        due("<" + form + ">", d.question(0, form), 0);
-        due("kind of <" + form + ">", d.x.fault(), 0);
-    }
-
     private static void promise4Faults() {
         for (String form : new String[] {"a", "0", "999999", "abcdefghijkl", "1..1", "1 .. 2", "01..1", "a b|c", " a ",
                 "[a]", "(a)", "{a}", "{a,b|c,[d],(e),{f}}", "((((((a))))))", "[({[({a})]})]", "(a)(b)(c)(d)(e)(f)(g)(h)",
@@ -249,12 +207,6 @@ public final class PromiseTest {
         fault("a" + times(" ", 199) + "]", 200, 1);
         good(times("[a]", 66) + "|b");
         fault(times("[a]", 66) + "|(", 200, 1);
-    }
-
-    private static void taken(String form, String answer, int want) {
-        Desk d = new Desk();
-        due("form <" + form + ">", d.question(0, form), 0);
-        due("<" + form + "> takes <" + answer + ">", d.takes(0, answer), want);
     }
 
     private static void promise5Takes() {
@@ -372,10 +324,10 @@ public final class PromiseTest {
     }
 
     private static void promise7Asked() {
-        Desk d = playing("round 3 turns right 1;");
-        d.answer(0, right(d, 0));
+        Desk d = Desk.playing("round 3 turns right 1;");
+        d.answer(0, d.right(0));
         d.answer(1, "no");
-        d.answer(0, right(d, 2));
+        d.answer(0, d.right(2));
         d.x.appeal(1, true);
         d.x.appeal(2, false);
         due("not while the match is on", d.asked(0, 1), 0);
@@ -396,7 +348,7 @@ public final class PromiseTest {
         for (int m = 0; m < 3; m++) {
             due("pack " + m, hundredths.pack(2 * m, 2 * m + 1, 1, 0, 100, 9), 0);
             hundredths.x.begin();
-            hundredths.answer(0, m == 1 ? "no" : right(hundredths, 0));
+            hundredths.answer(0, m == 1 ? "no" : hundredths.right(0));
             hundredths.x.finish();
         }
         due("asked three times", hundredths.asked(0, 1), 3);
@@ -422,15 +374,6 @@ public final class PromiseTest {
         }
         due("team 35 is none", d.x.seen(35, 0), false);
         due("team of the lowest number", d.x.seen(Integer.MIN_VALUE, 0), false);
-    }
-
-    private static void lawFault(String law, int place, int kind) {
-        Desk d = new Desk();
-        d.law("round 7 buzz right 1;round 2 buzz right 1;");
-        due("place of the fault of law <" + law + ">", d.law(law), -1 - place);
-        due("kind of the fault of law <" + law + ">", d.x.fault(), kind);
-        due("the law stays", d.x.count(1), 9);
-        due("its rounds too", d.x.count(2), 2);
     }
 
     private static void promise9Law() {
@@ -481,7 +424,7 @@ public final class PromiseTest {
         lawFault(longest + "turns", 126, 1);
         lawFault(longest + ";", 126, 1);
 
-        Desk on = playing("round 2 turns right 1;");
+        Desk on = Desk.playing("round 2 turns right 1;");
         due("while a match is on", on.law("round 3 turns right 1;"), -300);
         due("the law stays", on.x.count(1), 2);
         on.x.call();
@@ -539,9 +482,9 @@ public final class PromiseTest {
         due("begin", d.x.begin(), true);
         due("a match is on", d.pack(0, 1, 2, 0, 1000, 1000), Desk.THROWS_STATE);
         due("wrong ones even then", d.pack(0, 1, 2, 0, 1000, 0), Desk.THROWS_ARGUMENT);
-        d.answer(0, right(d, 0));
+        d.answer(0, d.right(0));
         d.x.nothing(1);
-        d.answer(0, right(d, 2));
+        d.answer(0, d.right(2));
         d.x.finish();
         due("one team saw 0 to 2", d.pack(1, 5, 3, 0, 1000, 1000), 0);
         due("so 3 is the first", d.x.packed(0), 3);
@@ -638,9 +581,9 @@ public final class PromiseTest {
         d.x.strike(3, true);
         due("one that is not of the pack", d.x.begin(), true);
         due("one is on", d.x.begin(), false);
-        d.answer(0, right(d, 0));
+        d.answer(0, d.right(0));
         due("the new law", d.x.now(2), 5);
-        d.answer(1, right(d, 1));
+        d.answer(1, d.right(1));
         due("and its second round", d.x.now(3), 6);
         due("finish", d.x.finish(), true);
         due("side 0 was the first team", d.x.table(11, 0), 7);
@@ -654,48 +597,48 @@ public final class PromiseTest {
     }
 
     private static void promise14Answer() {
-        Desk d = playing("round 2 turns right 3 wrong 2;round 2 turns right 4 pass 1 wrong 2;round 2 buzz right 5 wrong 3;");
-        due("of the other side", d.answer(1, right(d, 0)), NONE);
-        due("of no side", d.answer(2, right(d, 0)), NONE);
-        due("of side -1", d.answer(-1, right(d, 0)), NONE);
+        Desk d = Desk.playing("round 2 turns right 3 wrong 2;round 2 turns right 4 pass 1 wrong 2;round 2 buzz right 5 wrong 3;");
+        due("of the other side", d.answer(1, d.right(0)), NONE);
+        due("of no side", d.answer(2, d.right(0)), NONE);
+        due("of side -1", d.answer(-1, d.right(0)), NONE);
         d.dueNow("nothing came", 0, 0, 0, 0, 0, 0);
-        due("right", d.answer(0, right(d, 0)), 1);
+        due("right", d.answer(0, d.right(0)), 1);
         d.dueNow("right", 1, 1, 3, 0, 1, 0);
-        due("not right", d.answer(1, right(d, 0)), 0);
+        due("not right", d.answer(1, d.right(0)), 0);
         d.dueNow("no pass: over", 2, 0, 3, -2, 2, 0);
         due("no answer at all", d.answer(0, "??"), 0);
         d.dueNow("passed", 2, 1, 1, -2, 3, 0);
-        due("of the side that had it", d.answer(0, right(d, 2)), NONE);
-        due("passed and right", d.answer(1, right(d, 2)), 1);
+        due("of the side that had it", d.answer(0, d.right(2)), NONE);
+        due("passed and right", d.answer(1, d.right(2)), 1);
         d.dueNow("the points of pass", 3, 1, 1, -1, 4, 0);
         due("wrong", d.answer(1, "x"), 0);
         due("wrong too, nothing is lost", d.answer(0, ""), 0);
         d.dueNow("buzz: either's", 4, 2, 1, -3, 6, 0);
-        due("buzz of no side", d.answer(2, right(d, 4)), NONE);
+        due("buzz of no side", d.answer(2, d.right(4)), NONE);
         due("buzz of side 1", d.answer(1, "x"), 0);
         d.dueNow("the other's", 4, 0, 1, -6, 7, 0);
-        due("not side 1's again", d.answer(1, right(d, 4)), NONE);
+        due("not side 1's again", d.answer(1, d.right(4)), NONE);
         due("wrong of the other", d.answer(0, "x"), 0);
         d.dueNow("loses the same", 5, 2, -2, -6, 8, 0);
-        due("right", d.answer(0, right(d, 5)), 1);
+        due("right", d.answer(0, d.right(5)), 1);
         d.dueNow("over", 6, 3, 3, -6, 9, 0);
         due("it is over", d.answer(0, "x"), NONE);
         due("it is over for 1", d.answer(1, "x"), NONE);
         d.x.finish();
         due("no match", d.answer(0, "x"), NONE);
 
-        Desk buzz = playing("round 2 buzz right 5 wrong 3;");
+        Desk buzz = Desk.playing("round 2 buzz right 5 wrong 3;");
         buzz.answer(0, "x");
-        due("the other is right", buzz.answer(1, right(buzz, 0)), 1);
+        due("the other is right", buzz.answer(1, buzz.right(0)), 1);
         buzz.dueNow("with all its points", 1, 2, -3, 5, 2, 0);
-        due("a long text is no answer", buzz.answer(0, right(buzz, 1) + times(" ", 200)), 0);
-        Desk zero = playing("round 2 turns right 2 pass 0;");
+        due("a long text is no answer", buzz.answer(0, buzz.right(1) + times(" ", 200)), 0);
+        Desk zero = Desk.playing("round 2 turns right 2 pass 0;");
         zero.answer(0, "x");
         zero.dueNow("'pass 0' passes, and nothing is lost without 'wrong'", 0, 1, 0, 0, 1, 0);
     }
 
     private static void promise15Nothing() {
-        Desk d = playing("round 2 turns right 3 wrong 2;round 2 turns right 4 pass 1 wrong 2;round 1 buzz right 5 wrong 3;");
+        Desk d = Desk.playing("round 2 turns right 3 wrong 2;round 2 turns right 4 pass 1 wrong 2;round 1 buzz right 5 wrong 3;");
         due("of the other side", d.x.nothing(1), false);
         due("of no side", d.x.nothing(2), false);
         due("of side -1", d.x.nothing(-1), false);
@@ -722,7 +665,7 @@ public final class PromiseTest {
     }
 
     private static void promise16Dead() {
-        Desk d = playing("round 1 turns right 3 pass 1;round 3 buzz right 5 wrong 3;");
+        Desk d = Desk.playing("round 1 turns right 3 pass 1;round 3 buzz right 5 wrong 3;");
         due("can't come with turns", d.x.dead(), false);
         d.x.nothing(0);
         due("nor behind a pass", d.x.dead(), false);
@@ -740,12 +683,12 @@ public final class PromiseTest {
     }
 
     private static void promise17Appeal() {
-        Desk d = playing("round 2 turns right 3 pass 1 wrong 2;round 2 buzz right 5 wrong 4;");
+        Desk d = Desk.playing("round 2 turns right 3 pass 1 wrong 2;round 2 buzz right 5 wrong 4;");
         d.answer(0, "x");
-        d.answer(1, right(d, 0));
-        d.answer(1, right(d, 1));
+        d.answer(1, d.right(0));
+        d.answer(1, d.right(1));
         d.answer(0, "x");
-        d.answer(1, right(d, 2));
+        d.answer(1, d.right(2));
         d.x.dead();
         d.dueNow("as played", 4, 3, -6, 9, 6, 0);
         due("no such event", d.x.appeal(6, true), false);
@@ -769,13 +712,13 @@ public final class PromiseTest {
         d.x.finish();
         due("no match", d.x.appeal(0, true), false);
 
-        Desk last = playing("round 1 turns right 3 pass 1 wrong 2;");
-        last.answer(0, right(last, 0));
+        Desk last = Desk.playing("round 1 turns right 3 pass 1 wrong 2;");
+        last.answer(0, last.right(0));
         last.dueNow("over", 1, 3, 3, 0, 1, 0);
         due("not right", last.x.appeal(0, false), true);
         last.dueNow("not over any more", 0, 1, -2, 0, 1, 0);
         due("so it can't be finished", last.x.finish(), false);
-        due("it is the other's", last.answer(1, right(last, 0)), 1);
+        due("it is the other's", last.answer(1, last.right(0)), 1);
         last.dueNow("over again", 1, 3, -2, 1, 2, 0);
         last.x.appeal(0, true);
         last.dueNow("void", 1, 3, 3, 0, 2, 1);
@@ -783,12 +726,12 @@ public final class PromiseTest {
         due("finish", last.x.finish(), true);
         due("known", last.asked(0, 2), 1);
 
-        Desk voided = playing("round 1 turns right 3 pass 1 wrong 2;");
+        Desk voided = Desk.playing("round 1 turns right 3 pass 1 wrong 2;");
         voided.x.nothing(0);
         due("nothing is no answer", voided.x.appeal(0, true), false);
-        Desk unknown = playing("round 1 buzz right 3;");
+        Desk unknown = Desk.playing("round 1 buzz right 3;");
         unknown.answer(1, "x");
-        unknown.answer(0, right(unknown, 0));
+        unknown.answer(0, unknown.right(0));
         unknown.x.appeal(0, true);
         unknown.x.appeal(0, false);
         unknown.x.appeal(1, false);
@@ -797,11 +740,11 @@ public final class PromiseTest {
     }
 
     private static void promise18Undo() {
-        Desk d = playing("round 2 turns right 3 pass 1 wrong 2;");
+        Desk d = Desk.playing("round 2 turns right 3 pass 1 wrong 2;");
         due("there is none", d.x.undo(), false);
         d.answer(0, "x");
-        d.answer(1, right(d, 0));
-        d.answer(1, right(d, 1));
+        d.answer(1, d.right(0));
+        d.answer(1, d.right(1));
         d.dueNow("as played", 2, 3, -2, 4, 3, 0);
         due("undo", d.x.undo(), true);
         d.dueNow("one less", 1, 1, -2, 1, 2, 0);
@@ -822,13 +765,13 @@ public final class PromiseTest {
     }
 
     private static void promise19Now() {
-        Desk d = playing("round 1 buzz right 2;round 2 turns right 1;");
+        Desk d = Desk.playing("round 1 buzz right 2;round 2 turns right 1;");
         d.dueNow("at first either's", 0, 2, 0, 0, 0, 0);
         due("now(6)", d.x.now(6), NONE);
         due("now(-1)", d.x.now(-1), NONE);
-        d.answer(1, right(d, 0));
+        d.answer(1, d.right(0));
         d.dueNow("question 1 of the match is side 1's", 1, 1, 0, 2, 1, 0);
-        d.answer(1, right(d, 1));
+        d.answer(1, d.right(1));
         d.dueNow("question 2 is side 0's", 2, 0, 0, 3, 2, 0);
         d.x.nothing(0);
         d.dueNow("over", 3, 3, 0, 3, 3, 0);
@@ -839,12 +782,12 @@ public final class PromiseTest {
     }
 
     private static void promise20Event() {
-        Desk d = playing("round 1 turns right 7 pass 1 wrong 2;round 2 buzz right 5 wrong 4;");
+        Desk d = Desk.playing("round 1 turns right 7 pass 1 wrong 2;round 2 buzz right 5 wrong 4;");
         due("none yet", d.event(0, 0), NO_ELEMENT);
         d.x.nothing(0);
-        d.answer(1, right(d, 0));
+        d.answer(1, d.right(0));
         d.answer(1, "x");
-        d.answer(0, right(d, 1));
+        d.answer(0, d.right(1));
         d.x.dead();
         d.dueEvent("nothing", 0, 0, 1, 0, 0, 0, 0);
         d.dueEvent("passed", 1, 0, 0, 1, 1, 0, 1);
@@ -864,12 +807,12 @@ public final class PromiseTest {
     }
 
     private static void promise21Finish() {
-        Desk d = playing("round 2 turns right 3 pass 2;");
+        Desk d = Desk.playing("round 2 turns right 3 pass 2;");
         due("not over", d.x.finish(), false);
-        d.answer(0, right(d, 0));
+        d.answer(0, d.right(0));
         due("not over yet", d.x.finish(), false);
         d.answer(1, "x");
-        d.answer(0, right(d, 1));
+        d.answer(0, d.right(1));
         due("over", d.x.finish(), true);
         due("none is on", d.x.finish(), false);
         due("one is ended", d.x.count(5), 1);
@@ -885,8 +828,8 @@ public final class PromiseTest {
     }
 
     private static void promise22Call() {
-        Desk d = playing("round 2 turns right 3 pass 2;");
-        d.answer(0, right(d, 0));
+        Desk d = Desk.playing("round 2 turns right 3 pass 2;");
+        d.answer(0, d.right(0));
         due("call", d.x.call(), true);
         due("none is on", d.x.call(), false);
         due("no match", d.x.now(0), NONE);
@@ -912,11 +855,11 @@ public final class PromiseTest {
         d.law(law.toString());
         due("pack of a result", d.pack(a, b, 48, 0, 5000, 1000), 0);
         due("begin of a result", d.x.begin(), true);
-        d.answer(0, pointsA < 0 ? "x" : right(d, 0));
+        d.answer(0, pointsA < 0 ? "x" : d.right(0));
         if (pointsA < 0) {
             d.x.dead();
         }
-        d.answer(1, pointsB < 0 ? "x" : right(d, 1));
+        d.answer(1, pointsB < 0 ? "x" : d.right(1));
         if (pointsB < 0) {
             d.x.dead();
         }
