@@ -568,6 +568,8 @@ public final class TextBoundaryTest extends Checks {
         taken("{a|b,a}", "b b", 0);
         taken("{a,b}", "a a b", 0);
         taken("{a,b}", "b b a", 0);
+        taken("{a,b,c}", "b b c a", 0);
+        taken("{a,b,c}", "a c c b", 0);
         taken("{a,b}{c,d}", "b a d c", 1);
         taken("{a,b}{c,d}", "b a b a", 0);
         taken("{a,b,c,d,e}{f,g}", "a b c d e g f", 1);
